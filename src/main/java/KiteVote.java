@@ -1137,7 +1137,9 @@ public final class KiteVote {
                         return 0;
                     }
                     top--;
-                    pile[top - 1] = joined(kind, pile[top - 1], pile[top]);
+                    int first = pile[top - 1];
+                    int second = pile[top];
+                    pile[top - 1] = kind <= OVER ? joined(kind, first, second) : judged(kind, first, second);
                 } else {
                     if (top < 1) {
                         return 0;
@@ -1158,9 +1160,6 @@ public final class KiteVote {
         }
 
         private static int joined(int kind, int a, int b) {
-            if (kind >= EQUAL) {
-                return isTrue(kind, a, b) ? 1 : 0;
-            }
             long value = 0;
             if (kind == PLUS) {
                 value = (long) a + b;
@@ -1177,18 +1176,18 @@ public final class KiteVote {
             return value < -BOUND ? -BOUND : (int) value;
         }
 
-        private static boolean isTrue(int kind, int a, int b) {
+        private static int judged(int kind, int a, int b) {
             switch (kind) {
                 case EQUAL:
-                    return a == b;
+                    return a == b ? 1 : 0;
                 case BELOW:
-                    return a < b;
+                    return a < b ? 1 : 0;
                 case ABOVE:
-                    return a > b;
+                    return a > b ? 1 : 0;
                 case AND:
-                    return a != 0 && b != 0;
+                    return a & b;
                 default:
-                    return a != 0 || b != 0;
+                    return a | b;
             }
         }
     }
@@ -1596,8 +1595,12 @@ public final class KiteVote {
         /** (3), and the MINUTE is one later. No WEAR looks at what is WORN, so it can be added at once. */
         void rub(State state) {
             for (int one = 0; one < MOST_KITES; one++) {
+                if (!isUp(state, one)) {
+                    continue;
+                }
                 for (int other = 0; other < MOST_KITES; other++) {
-                    if (doRub(state, one, other)) {
+                    int apart = state.get(one, PLACE) - state.get(other, PLACE);
+                    if ((apart == 1 || apart == -1) && isUp(state, other)) {
                         state.set(one, WORN, state.get(one, WORN) + wearOf(state, one, other));
                     }
                 }
@@ -1610,10 +1613,8 @@ public final class KiteVote {
             state.minute++;
         }
 
-        private boolean doRub(State state, int one, int other) {
-            int apart = state.get(one, PLACE) - state.get(other, PLACE);
-            return (apart == 1 || apart == -1) && state.flies(one) && state.flies(other)
-                && state.get(one, HEIGHT) > 0 && state.get(other, HEIGHT) > 0;
+        private static boolean isUp(State state, int kite) {
+            return state.flies(kite) && state.get(kite, HEIGHT) > 0;
         }
 
         int liftOf(State state, int kite) {
