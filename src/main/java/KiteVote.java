@@ -338,7 +338,7 @@ public final class KiteVote {
             flight.pass(trial);
             int cuts = flew & ~trial.flyers();
             if (cuts != 0) {
-                return what == 0 ? Integer.numberOfTrailingZeros(cuts) : trial.minute;
+                return what == 0 ? lowestOf(cuts) : trial.minute;
             }
         }
         return NONE;
@@ -781,6 +781,15 @@ public final class KiteVote {
             }
             flight.pass(trial);
         }
+    }
+
+    private static int lowestOf(int bits) {
+        for (int i = 0; i < MOST_KITES; i++) {
+            if ((bits >> i & 1) != 0) {
+                return i;
+            }
+        }
+        return NONE;
     }
 
     private static boolean isOut(int value, int most) {

@@ -221,6 +221,8 @@ public final class AheadTests {
         x = Due.on("fb10;as3;kp0w3h5;kp5w3h5");
         Due.is("cross(0, 1)", x.cross(0, 1), 3);
         Due.is("prey that cuts it, too", x.prey(0), 0);
+        x = Due.on("fb10;as3;kp0w3h5;kp5w3h5x1");
+        Due.is("prey(1)", x.prey(1), 1);
     }
 
     private static void power() {
@@ -283,6 +285,11 @@ public final class AheadTests {
         x.go(2);
         Due.is("content(1) by heights now", x.content(1), 1);
         Due.is("bell(0)", x.bell(0), 1);
+        // the wind falls from minute 5 on: a minute from 0 on is not a minute from 7 on
+        x = Due.on("fb9;as3;an5s0;kw3h8o1;kp5w3h7");
+        x.go(7);
+        Due.is("content(1) from minute 0", x.content(1), 1);
+        Due.is("content(6) from minute 0", x.content(6), 0);
         // who flies now counts, though it is cut by then
         x = Due.on("fb9;as3;kw3h5o1;kw3h5o1x9;kp5w3h1");
         Due.is("content(2) with a cut one", x.content(2), 2);
@@ -421,6 +428,9 @@ public final class AheadTests {
         Due.is("weighs(0) a minute later", x.weighs(0), 1 << 4);
         x.go(1);
         Due.is("weighs(0) behind the bell", x.weighs(0), 0);
+        x = Due.on("fb1;as5;kw3");
+        x.go(1);
+        Due.is("weighs(0) at the bell", x.weighs(0), 1022);
         // one that is cut has no height
         x = Due.on("fb9;as5;kw5h5;kw5h5x9");
         x.see(0, 2, 0);

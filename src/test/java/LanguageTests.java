@@ -51,7 +51,7 @@ public final class LanguageTests {
         + "spare(int)int lonely()int highest()int image()int back()int count(int)int";
     private static final Set<String> LIBRARY = Set.of("java.lang.String.length", "java.lang.String.indexOf",
         "java.lang.Math.min", "java.lang.Math.max", "java.lang.Integer.bitCount",
-        "java.lang.Integer.numberOfTrailingZeros", "java.lang.System.arraycopy");
+        "java.lang.System.arraycopy");
 
     private static Trees trees;
     private static CompilationUnitTree unit;

@@ -88,6 +88,14 @@ public final class PromiseTests {
         Due.is("feed of two more", x.feed(1, 0, 0, 0, 1), NONE);
         Due.is("count(4)", x.count(4), 239);
         Due.is("feed of the last", x.feed(0, 0, 0, 0, 1), 240);
+        for (int i = 0; i < 5; i++) {
+            int[] w = new int[5];
+            w[i] = 1;
+            Due.is("feed of word " + i, x.feed(w[0], w[1], w[2], w[3], w[4]), NONE);
+        }
+        x.end(238);
+        Due.is("feed of three more", x.feed(0x010101, 0, 0, 0, 0), NONE);
+        Due.is("feed of two more", x.feed(0, 0, 0x010001, 0, 0), 240);
     }
 
     private static void end() {
@@ -178,8 +186,47 @@ public final class PromiseTests {
         field("a;f", 3);
         field("k\u00e9", 1);
         field(" k ; k ", NONE);
+        field("kx", 2);
+        field("k;af", 4);
+        field("k;fb", 4);
+        field("kpw1", 2);
+        field("fw-1;k", 2);
+        bounds("fw", "k", 1, 20);
+        bounds("fb", "k", 1, 60);
+        bounds("fm", "k", 0, 99);
+        bounds("fr", "k", 1, 9);
+        bounds("kp", "a", 0, 19);
+        bounds("kw", "a", 1, 9);
+        bounds("kl", "a", 0, 99);
+        bounds("kl99h", "a", 0, 99);
+        bounds("ko", "a", 0, 2);
+        bounds("kx", "a", 0, 9);
+        bounds("kg", "a", 0, 4);
+        bounds("km", "a", 0, 2);
+        bounds("af", "k", 0, 99);
+        bounds("an", "k", 0, 60);
+        bounds("as", "k", 0, 9);
+        KiteVote x = new KiteVote();
+        Due.feed(x, "fw9;k;a");
+        Due.is("fault(0)", x.fault(0), NONE);
+        Due.is("fault(0) again", x.fault(0), NONE);
+        Due.is("fault(1) of it", x.fault(1), 0);
+        Due.is("fault(0) again", x.fault(0), NONE);
+        Due.is("text(0)", x.text(0), 1);
         Due.is("fault(2)", new KiteVote().fault(2), -2);
         Due.is("fault(-1)", new KiteVote().fault(-1), -2);
+    }
+
+    /** Every number of one and of two digits, and some of three. */
+    private static void bounds(String start, String rest, int least, int most) {
+        for (int v = 0; v <= 109; v++) {
+            String text = start + v;
+            int fault = v < least || v > most ? text.length() - 1 : NONE;
+            field(text + ";" + rest, fault);
+            if (v < 10) {
+                field(start + "0" + v + ";" + rest, fault == NONE ? NONE : fault + 1);
+            }
+        }
     }
 
     private static void rule(String text, int fault) {
@@ -251,6 +298,23 @@ public final class PromiseTests {
         rule("y:!(!(!(s=1&![h]=1)))?1", 12);
         rule("y:!(!(s=1&![h]=1))?1", NONE);
         rule("y:s\u00e9", 3);
+        rule("y:s=1|?2", 6);
+        rule("y:s=1&?2", 6);
+        rule("y:s=1||h=1?2", 6);
+        rule("y:s=?1", 4);
+        rule("y:?1", 2);
+        rule("y:!?1", 3);
+        rule("y:(s=1|)?2", 7);
+        rule("y:()?2", 3);
+        rule("y:[]", 3);
+        rule("y:s*", 4);
+        rule("y:s*;y:1", 4);
+        rule("y:s+;y:1", 4);
+        rule("y:[;y:1", 3);
+        rule("y:s=1?;y:2", 6);
+        rule("y:s=1|h?2", 7);
+        rule("y:s=1|(h=2?2", 10);
+        rule("y:s=1??2", 6);
         rule("k", 0);
     }
 
@@ -353,6 +417,7 @@ public final class PromiseTests {
         for (int i = 0; i < 4; i++) {
             Due.is("law(" + i + ")", x.law(i), plain[i]);
             Due.is("law(" + i + ") as told", y.law(i), told[i]);
+            Due.is("law(" + i + ") of a plain one", Due.on("f;k").law(i), plain[i]);
             Due.is("law(" + i + ") without a field", new KiteVote().law(i), NONE);
         }
         Due.is("law(4)", x.law(4), NONE);
@@ -418,6 +483,19 @@ public final class PromiseTests {
         Due.rule(x, 0, "y:0-10");
         Due.is("lift held below", x.lift(0), -9);
         Due.is("lift of a cut one", cutOne().lift(0), HIDDEN);
+        // the letters of one law do not stay for the other one
+        for (String letter : new String[] {"a", "b", "d"}) {
+            x = Due.on("kh9x3;kx2");
+            Due.rule(x, 0, "y:" + letter);
+            Due.rule(x, 1, "y:9");
+            x.wear(0, 1);
+            Due.is("lift by " + letter + " behind a wear", x.lift(0), 0);
+        }
+        x = Due.on("as5;kh9;k");
+        Due.rule(x, 0, "y:s");
+        Due.rule(x, 1, "y:s");
+        Due.is("lift by s", x.lift(0), 5);
+        Due.is("wear by s behind a lift", x.wear(0, 1), 0);
     }
 
     /** Kite 0 is cut in the second minute, kite 1 flies. */
@@ -506,6 +584,15 @@ public final class PromiseTests {
         Due.is("wax(0) of 9", x.wax(0), NONE);
         Due.is("wax(1) in the next sitting", x.wax(1), 2);
         Due.is("kite(1, 6)", x.kite(1, WAX), 2);
+        x = Due.on("fb1;k;k;k;k;k;k;k;k");
+        for (int sitting = 1; sitting <= 3; sitting++) {
+            for (int i = 0; i < 8; i++) {
+                Due.is("wax(" + i + ")", x.wax(i), sitting);
+                Due.is("wax(" + i + ") again", x.wax(i), NONE);
+            }
+            x.go(1);
+            x.sit();
+        }
         Due.is("wax of a cut one", cutOne().wax(0), NONE);
     }
 
@@ -522,7 +609,12 @@ public final class PromiseTests {
         Due.is("move(-1, 1)", x.move(-1, 1), NONE);
         Due.is("move(0, -1)", x.move(0, -1), 0);
         Due.is("kite(0, 0)", x.kite(0, PLACE), 0);
+        Due.is("move(3, 1)", x.move(3, 1), NONE);
+        Due.is("move(0, least)", x.move(0, Integer.MIN_VALUE), NONE);
         Due.is("move of a cut one", cutOne().move(0, -1), NONE);
+        x = cutOne();
+        x.move(1, 1);
+        Due.is("move of a cut one", x.move(0, 1), NONE);
         Due.is("move where a cut one was", cutOne().move(1, -1), 0);
     }
 
@@ -676,7 +768,8 @@ public final class PromiseTests {
             {"y:9999*9999/1000/1000", 1}, {"y:[9999*9999-9999]/9900-95", 5}, {"y:[0-9999*9999]/1000/1000", -1},
             {"y:[0-9999*9999-9999*9999]/9999/99", -1}, {"y:9999*9999*9999*9999/9999/100", 1},
             {"y:[9999*9999+9999*9999]/1000/1000", 1}, {"y:9999*9999/[0-9999]/[0-50]", 2},
-            {"y:w=2?4", 4}, {"y:w=3?4", 0}, {"y:w=3?4;y:5", 5}, {"y:w<3?4;y:5", 4}, {"y:w<2?4;y:5", 5},
+            {"y:9999*9999-9999*100-95", 5}, {"y:[0-9999*9999]+9999*100+95", -5}, {"y:s+9999*9999-9999*100-95", 5},
+            {"y:0-9999*100-9999*100+9999*100+95", -5}, {"y:w=2?4", 4}, {"y:w=3?4", 0}, {"y:w=3?4;y:5", 5}, {"y:w<3?4;y:5", 4}, {"y:w<2?4;y:5", 5},
             {"y:w>1?4;y:5", 4}, {"y:w>2?4;y:5", 5}, {"y:1;y:2", 1}, {"y:w=3?1;y:w=4?2;y:w=2?3;y:4", 3},
             {"y:!w=2?1;y:2", 2}, {"y:!!w=2?1;y:2", 1}, {"y:w=2|h=1&h=2?1;y:2", 1}, {"y:(w=2|h=1)&h=2?1;y:2", 2},
             {"y:!w=1&h=5?1;y:2", 1}, {"y:!(w=2&h=5)?1;y:2", 2}, {"y:!w=2|h=5?1;y:2", 1}, {"y:w=2&h=5?1;y:2", 1},
