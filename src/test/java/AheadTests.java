@@ -290,6 +290,7 @@ public final class AheadTests {
         x.go(7);
         Due.is("content(1) from minute 0", x.content(1), 1);
         Due.is("content(6) from minute 0", x.content(6), 0);
+        Due.is("content(1) by the first minute", Due.on("as3;an1s0;kw3h3o1;kp5w3h2").content(1), 1);
         // who flies now counts, though it is cut by then
         x = Due.on("fb9;as3;kw3h5o1;kw3h5o1x9;kp5w3h1");
         Due.is("content(2) with a cut one", x.content(2), 2);
