@@ -1,8 +1,12 @@
+import java.util.Set;
+import java.util.TreeSet;
+
 /** What the tests share: counting, and feeding a text to a KiteVote. */
 final class Due {
     private static int right = 0;
     private static int wrong = 0;
     private static String part = "";
+    private static final Set<String> WRONG_PARTS = new TreeSet<>();
 
     private Due() {
     }
@@ -17,11 +21,21 @@ final class Due {
             return;
         }
         wrong++;
+        WRONG_PARTS.add(part);
         System.out.println(part + ": " + call + " answered " + got + ", due is " + want);
     }
 
     static void is(String call, boolean got, boolean want) {
         is(call, got ? 1 : 0, want ? 1 : 0);
+    }
+
+    /** How many answers were looked at so far. */
+    static int looks() {
+        return right + wrong;
+    }
+
+    static Set<String> wrongParts() {
+        return WRONG_PARTS;
     }
 
     /** The closing line that .ci/run adds up, and the exit code. */
