@@ -39,6 +39,7 @@ public final class PromiseEdgeTests {
         seenRefused();
         imagesRefused();
         counts();
+        nothingChanged();
         wild();
     }
 
@@ -268,7 +269,7 @@ public final class PromiseEdgeTests {
         });
         Edge.test("5: a FIELD: all that was SEEN is gone", () -> {
             KiteVote x = Edge.on("k;kp5");
-            x.see(0, 1, 7);
+            x.see(0, 9, 9);
             x.see(0, 1, 8);
             x.see(0, 9, 9);
             Due.feed(x, "fb2;k");
@@ -1095,6 +1096,100 @@ public final class PromiseEdgeTests {
             x.holds(0, NONE);
             Due.is("count(5)", x.count(5), NONE);
             Due.is("count(6)", x.count(6), 1);
+        });
+    }
+
+    // ---- "What is refused answers as told and changes nothing."
+
+    /** With LAWS, a sitting put by, ACTS, an IMAGE of an earlier MINUTE, something SEEN, GUST, and a TAPE that is a FAULT. */
+    private static KiteVote busy() {
+        KiteVote x = Edge.on("fb3;as3;kw3h5m1g1;kp1w3h7x9g2;kp2w3h2g1", "y:s-w", "y:1");
+        x.gust(7);
+        x.go(3);
+        x.sit();
+        x.wax(0);
+        x.image();
+        x.go(1);
+        x.talk(0, 1);
+        x.see(0, 1, 4);
+        Due.feed(x, "kh9;x");
+        return x;
+    }
+
+    private static void nothingChanged() {
+        refusedBusy("feed", -1, x -> feed(x, Due.words(Due.pad(" ", 20), 0)), Due.pad(" ", 232));
+        refusedBusy("end", 0, x -> x.end(6) ? 1 : 0, "");
+        refusedBusy("fault", -2, x -> x.fault(2), "");
+        refusedBusy("text of a FIELD", -1, x -> x.text(0), "");
+        refusedBusy("text of a LAW", -1, x -> x.text(1), "");
+        refusedBusy("text of no sort", -1, x -> x.text(2), "");
+        refusedBusy("kite", 1, x -> thrown(x, 3, 0), "");
+        refusedBusy("law", -1, x -> x.law(4), "");
+        refusedBusy("holds", 0, x -> x.holds(0, 2) ? 1 : 0, "");
+        refusedBusy("holds of no such what", 0, x -> x.holds(2, 0) ? 1 : 0, "");
+        refusedBusy("wind", -1, x -> x.wind(100, 0), "");
+        refusedBusy("lift", HIDDEN, x -> x.lift(3), "");
+        refusedBusy("wear", -1, x -> x.wear(0, 0), "");
+        refusedBusy("feet", -1, x -> x.feet(3), "");
+        refusedBusy("mode", 0, x -> x.mode(0, 1) ? 1 : 0, "");
+        refusedBusy("wax in this sitting", -1, x -> x.wax(0), "");
+        refusedBusy("wax of 9", -1, x -> x.wax(1), "");
+        refusedBusy("move to a held PLACE", -1, x -> x.move(0, 1), "");
+        refusedBusy("move to no PLACE", -1, x -> x.move(0, -1), "");
+        refusedBusy("splice of two CLANS", -1, x -> x.splice(0, 1, 1), "");
+        refusedBusy("splice of too much", -1, x -> x.splice(0, 2, 36), "");
+        refusedBusy("talk", 0, x -> x.talk(0, 1) ? 1 : 0, "");
+        refusedBusy("go", -1, x -> x.go(3), "");
+        refusedBusy("gust", 0, x -> x.gust(7) ? 1 : 0, "");
+        refusedBusy("gusts", -1, x -> x.gusts(3, 1), "");
+        refusedBusy("sit", -1, x -> x.sit(), "");
+        refusedBusy("book", -1, x -> x.book(1), "");
+        refusedBusy("ahead", -1, x -> x.ahead(0, 3, 0), "");
+        refusedBusy("bell", -1, x -> x.bell(3), "");
+        refusedBusy("cut", -1, x -> x.cut(2), "");
+        refusedBusy("calm", -1, x -> x.calm(), "");
+        refusedBusy("timing", -1, x -> x.timing(0, 2), "");
+        refusedBusy("stand", -1, x -> x.stand(3, 0), "");
+        refusedBusy("cross", -1, x -> x.cross(0, 3), "");
+        refusedBusy("prey", -1, x -> x.prey(3), "");
+        refusedBusy("power", -1, x -> x.power(3), "");
+        refusedBusy("content", -1, x -> x.content(61), "");
+        refusedBusy("ringer", -1, x -> x.ringer(2), "");
+        refusedBusy("duel", HIDDEN, x -> x.duel(0, 1, 6, 0), "");
+        refusedBusy("rests", -1, x -> x.rests(0, 1, 36), "");
+        refusedBusy("clan", -1, x -> x.clan(2, 0), "");
+        refusedBusy("see", -1, x -> x.see(0, 10, 0), "");
+        refusedBusy("weighs", -1, x -> x.weighs(3), "");
+        refusedBusy("spare", -1, x -> x.spare(5), "");
+        refusedBusy("count", HIDDEN, x -> x.count(13), "");
+        Edge.test("refused back changes nothing", () -> {
+            KiteVote x = two();
+            x.go(2);
+            Edge.refused(x, "back()", x::back, NONE);
+            Due.is("undo()", x.undo(), 1);
+        });
+    }
+
+    /** Beside one of which nothing was asked: what shows, what can be UNDONE, what BACK leads to. */
+    private static void refusedBusy(String call, long want, java.util.function.ToLongFunction<KiteVote> answer, String more) {
+        Edge.test("refused " + call + " changes nothing", () -> {
+            KiteVote x = busy();
+            KiteVote y = busy();
+            Due.feed(x, more);
+            Due.feed(y, more);
+            Due.is(call, answer.applyAsLong(x), want);
+            Due.is("what shows", Edge.shows(x).equals(Edge.shows(y)), true);
+            Due.is("weighs(0)", x.weighs(0), y.weighs(0));
+            Due.is("undo()", x.undo(), y.undo());
+            Due.is("undo()", x.undo(), y.undo());
+            Due.is("what shows then", Edge.shows(x).equals(Edge.shows(y)), true);
+            Due.is("back()", x.back(), 0);
+            y.back();
+            Due.is("what shows behind it", Edge.shows(x).equals(Edge.shows(y)), true);
+            Due.is("wax(2)", x.wax(2), 1);
+            Due.is("wax(0)", x.wax(0), NONE);
+            Due.is("end(5)", x.end(5), true);
+            Due.is("fault(0)", x.fault(0), 4);
         });
     }
 
